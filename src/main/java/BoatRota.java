@@ -477,7 +477,7 @@ public final class BoatRota {
     }
 
     private static boolean isIn(int member, int members) {
-        return (members & 1 << member) != 0;
+        return (members & (1 << member)) != 0;
     }
 
     /** What changes the station: its letter in a text, and the most digits of its numbers. */
@@ -607,13 +607,13 @@ public final class BoatRota {
     }
 
     private static final class Member {
-        int skill = HAND;
+        int skill;
         /** The boat with which it is out, or ASHORE, or GONE. */
-        int place = ASHORE;
-        int weariness = 0;
-        int hoursOut = 0;
-        int callOuts = 0;
-        int callOutsAsCoxswain = 0;
+        int place;
+        int weariness;
+        int hoursOut;
+        int callOuts;
+        int callOutsAsCoxswain;
 
         void start(int skill) {
             this.skill = skill;
@@ -643,13 +643,13 @@ public final class BoatRota {
     }
 
     private static final class Boat {
-        int draft = 0;
-        int seats = 0;
+        int draft;
+        int seats;
         /** NOBODY if the boat is not out. */
-        int coxswain = NOBODY;
-        int hoursLeft = 0;
-        int hoursWaited = 0;
-        int callOuts = 0;
+        int coxswain;
+        int hoursLeft;
+        int hoursWaited;
+        int callOuts;
 
         void start(int draft, int seats) {
             this.draft = draft;
@@ -683,9 +683,9 @@ public final class BoatRota {
     }
 
     private static final class Loan {
-        int oars = 0;
-        int hoursUntilDue = 0;
-        int hoursLate = 0;
+        int oars;
+        int hoursUntilDue;
+        int hoursLate;
 
         void start(int oars, int hours) {
             this.oars = oars;
@@ -701,8 +701,9 @@ public final class BoatRota {
     }
 
     /**
-     * All that can be undone. Its rows are made once, and copied into one another, since what
-     * an object makes in all its calls is counted. Sets of members are bits: bit k for member k.
+     * All that can be undone. Its rows are made once, and started again when they are needed,
+     * since what an object makes in all its calls is counted; those behind the counts are never
+     * looked at. Sets of members are bits: bit k for member k.
      */
     private static final class Station {
         final Member[] members = new Member[MOST_MEMBERS];
@@ -1126,7 +1127,7 @@ public final class BoatRota {
         private int leastWearyOf(int candidates) {
             int least = NOBODY;
             for (int member = 0; member < memberCount; member++) {
-                boolean isCandidate = (candidates & 1 << member) != 0;
+                boolean isCandidate = (candidates & (1 << member)) != 0;
                 if (isCandidate && (least == NOBODY
                         || members[member].weariness < members[least].weariness)) {
                     least = member;
