@@ -6,6 +6,7 @@ public final class OrderTest {
     public static void main(String[] args) {
         promise25Least();
         promise26Busiest();
+        fullStation();
         promise33MeanWeariness();
         promise35Account();
         Check.end("OrderTest");
@@ -91,6 +92,22 @@ public final class OrderTest {
         rota.call(0, 1);
         rota.pass(1);
         Check.same("more hours", "2301", order(rota, true));
+    }
+
+    private static void fullStation() {
+        BoatRota rota = new BoatRota();
+        int[] skills = {0, 1, 2, 0, 1, 2, 0, 1, 2, 0};
+        for (int skill : skills) {
+            rota.member(skill);
+        }
+        Check.same("ten by skill", "2581470369", order(rota, false));
+        Check.same("ten by number", "0123456789", order(rota, true));
+        rota.boat(0, 6);
+        rota.call(0, 1);
+        rota.pass(1);
+        // 2 is the coxswain, 1 and 4 are the skilled ones, and 0, 3 and 5 the others.
+        Check.same("six of ten weary", "8769514032", order(rota, false));
+        Check.same("six of ten busy", "0123456789", order(rota, true));
     }
 
     private static void promise33MeanWeariness() {
