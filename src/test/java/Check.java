@@ -1,5 +1,4 @@
 import java.util.NoSuchElementException;
-import java.util.function.DoubleSupplier;
 import java.util.function.LongSupplier;
 
 /** What the tests share: they compare, print what is wrong, and end with code 1 if anything was. */
@@ -65,10 +64,6 @@ final class Check {
             return e.getClass().getName();
         }
         return "nothing";
-    }
-
-    static String thrownByDouble(DoubleSupplier call) {
-        return thrown(() -> (long) call.getAsDouble());
     }
 
     static void write(BoatRota rota, String text) {
