@@ -1141,7 +1141,8 @@ public final class BoatRota {
             int able = ableMembers();
             int coxswains = skilledMembers(COXSWAIN);
             int skilled = skilledMembers(OAR);
-            int least = Integer.MAX_VALUE;
+            // No crew is wearier than all who are able together.
+            int least = wearinessOf(able);
             for (int crew = 1; crew <= able; crew++) {
                 boolean isFull = (crew & ~able) == 0
                         && Integer.bitCount(crew) == boats[boat].seats;

@@ -8,15 +8,17 @@ import java.util.Random;
 import java.util.TreeMap;
 
 /**
- * Runs of 512 calls, chosen by seeded dice, on a rota and on the model: every answer is the
- * same. At its end it says how often each method answered, and fails if one never did, or never
- * threw what it can throw: then the dice would prove too little.
+ * Runs of up to 512 calls, chosen by seeded dice, on a rota and on the model: every answer is the
+ * same. It fails too if a method never answered, or never threw what it can throw: then the dice
+ * would prove too little.
  */
 public final class ModelTest {
-    private static final int RUNS = 1500;
-    private static final int CALLS = 512;
+    private static final int RUNS = 3000;
+    /** No answer is promised behind the 512th call; a text, and the look at all, come behind. */
+    private static final int CALLS = 512 - 110 - 180;
     private static final String[] CHANGES = {"member", "leave", "train", "boat", "call", "call",
-        "call", "undo", "call", "borrow", "borrow", "giveBack", "limit", "pass", "pass", "pass", "pass"};
+        "call", "undo", "call", "borrow", "borrow", "giveBack", "limit", "pass", "pass", "pass",
+        "pass"};
     private static final Map<String, Integer> SEEN = new TreeMap<>();
 
     private final Random dice;
@@ -63,20 +65,17 @@ public final class ModelTest {
     }
 
     private boolean run(List<Method> methods) throws Exception {
-        int calls = 0;
         if (mood > 0) {
-            calls += startUp(methods);
+            startUp(methods);
         }
-        while (calls < CALLS) {
+        while (told.size() < CALLS) {
             if (dice.nextInt(40) == 0) {
                 String text = dice.nextInt(9) == 0 ? longText() : text();
                 for (char sign : text.toCharArray()) {
                     if (!both(named(methods, "append"), sign)) {
                         return false;
                     }
-                    calls++;
                 }
-                calls += 5;
                 if (!both(named(methods, "commands"))
                         || !sameForAll(methods, "reason", 2, 2)) {
                     return false;
@@ -89,16 +88,17 @@ public final class ModelTest {
                 // Rarer, since the one makes most texts faulty, and the other ends all undoing.
                 method = dice.nextInt(9) == 0 ? method : named(methods, "commands");
             }
-            calls++;
             if (!both(method, arguments(method))) {
                 return false;
             }
             if (told.get(told.size() - 1).endsWith("UnsupportedOperationException")) {
-                calls += 4;
                 sameForAll(methods, "reason", 2, 2);
             }
         }
-        return sameAtTheEnd(methods);
+        boolean isSame = sameAtTheEnd(methods);
+        Check.same("no more calls than are promised, " + told.size(), 1,
+                told.size() <= 512 ? 1 : 0);
+        return isSame;
     }
 
     private boolean sameAtTheEnd(List<Method> methods) throws Exception {
@@ -125,7 +125,7 @@ public final class ModelTest {
     }
 
     /** Most runs start with a station that has members and boats, so that boats go out. */
-    private int startUp(List<Method> methods) throws Exception {
+    private void startUp(List<Method> methods) throws Exception {
         int members = 4 + dice.nextInt(7);
         for (int k = 0; k < members; k++) {
             both(named(methods, "member"), k == 0 ? 2 : dice.nextInt(3));
@@ -133,7 +133,6 @@ public final class ModelTest {
         for (int k = 0; k < mood; k++) {
             both(named(methods, "boat"), dice.nextInt(7), 2 + dice.nextInt(5));
         }
-        return members + mood;
     }
 
     private static Method named(List<Method> methods, String name) {
