@@ -163,26 +163,35 @@ public final class TermsOfTextsTest {
         faulty("", 0, "q", 0, "q;q", 0, "m1;q;q", 3, "m1;m1;y", 6, "m1;m", 4, "m1;mx", 4, "m1;m1;", 6,
                 "b1;b1", 2, "t1;t12;b12;t", 12, "m/", 1, "m:", 1, "1", 0, "-", 0);
         Run.run("text(m0;x0;l9;t9) commands()=4 faultPosition()=-1");
-        String letters = "mxubcoglt";
-        for (char sign = 0; sign < 300; sign++) {
-            if (letters.indexOf(sign) < 0) {
-                Run.run("append(#" + (int) sign + ") text(1) commands()=IllegalArgument",
-                        "faultPosition()=0");
-            }
-            if (sign < '0' || sign > '9') {
-                Run.run("text(m) append(#" + (int) sign + ") commands()=IllegalArgument",
-                        "faultPosition()=1");
-            }
-            if (sign != ';') {
-                Run.run("text(m1) append(#" + (int) sign + ") commands()=IllegalArgument",
-                        "faultPosition()=2");
-            }
+        String digits = "0123456789";
+        for (String start : new String[] {"", "m0;", "t10;b02;"}) {
+            onlyTheseGoOn(start, "mxubcoglt");
+        }
+        for (String start : new String[] {"m", "x", "u", "b", "c", "o", "g", "l", "t", "b0", "c0",
+            "o1", "m0;t", "m0;c0"}) {
+            onlyTheseGoOn(start, digits);
+        }
+        for (String start : new String[] {"m0", "x0", "u0", "b02", "c01", "o110", "g0", "l10",
+            "t10", "m0;g0", "m0;o148"}) {
+            onlyTheseGoOn(start, ";");
+        }
+        for (String start : new String[] {"o11", "l1", "t1", "m0;l2"}) {
+            onlyTheseGoOn(start, digits + ";");
         }
         Run.run("append(#365) text(1) commands()=IllegalArgument faultPosition()=0");
         Run.run("text(m) append(#1633) commands()=IllegalArgument faultPosition()=1");
         Run.run("text(m) append(#304) commands()=IllegalArgument faultPosition()=1");
         Run.run("text(m1) append(#315) commands()=IllegalArgument faultPosition()=2");
         Run.run("append(#65535) commands()=IllegalArgument faultPosition()=0");
+    }
+
+    /** Behind this start any other character is the fault, and these are none. */
+    private static void onlyTheseGoOn(String start, String signs) {
+        for (int sign = 0; sign < 300; sign++) {
+            String next = "text(" + start + ") append(#" + sign + ") text(!) commands()?";
+            int due = start.length() + (signs.indexOf(sign) < 0 ? 0 : 1);
+            Run.run(next, "faultPosition()=" + due);
+        }
     }
 
     /** The reading that an empty text ends too early, so that its length is its fault position. */
