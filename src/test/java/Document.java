@@ -1,6 +1,7 @@
 import java.io.IOException;
 import java.nio.file.Files;
 import java.nio.file.Path;
+import java.util.ArrayList;
 import java.util.BitSet;
 import java.util.List;
 import java.util.Map;
@@ -15,6 +16,7 @@ final class Document {
     private static final List<String> WORDS = List.of("Tides", "Members", "Boats", "Choosing",
             "Call-outs", "Oars", "Hours", "Texts", "Reasons", "Changes", "Exceptions", "Details");
     private static final Map<String, String> PARTS = new TreeMap<>();
+    private static final Map<String, List<String>> LINES = new TreeMap<>();
     private static final Map<String, BitSet> TOLD = new TreeMap<>();
     private static String latest = "";
 
@@ -58,10 +60,26 @@ final class Document {
         }
     }
 
-    private static String text(String part) {
+    /** All parts there are, by their names. */
+    static List<String> parts() {
+        readOnce();
+        return new ArrayList<>(PARTS.keySet());
+    }
+
+    /** A part line by line, as it stands there. */
+    static List<String> lines(String part) {
+        readOnce();
+        return LINES.getOrDefault(part, List.of());
+    }
+
+    private static void readOnce() {
         if (PARTS.isEmpty()) {
             read();
         }
+    }
+
+    private static String text(String part) {
+        readOnce();
         return PARTS.getOrDefault(part, "");
     }
 
@@ -70,6 +88,7 @@ final class Document {
             String part = "";
             for (String line : Files.readAllLines(FILE)) {
                 part = partOf(line, part);
+                LINES.computeIfAbsent(part, k -> new ArrayList<>()).add(line);
                 PARTS.merge(part, withoutHead(line, part), (a, b) -> plain(a + " " + b));
             }
         } catch (IOException e) {

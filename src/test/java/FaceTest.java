@@ -2,7 +2,10 @@ import java.lang.reflect.Constructor;
 import java.lang.reflect.Field;
 import java.lang.reflect.Method;
 import java.lang.reflect.Modifier;
+import java.util.List;
 import java.util.TreeSet;
+import java.util.regex.Matcher;
+import java.util.regex.Pattern;
 
 /** The public face: every signature with its exceptions, and no other member to be seen. */
 public final class FaceTest {
@@ -46,17 +49,63 @@ public final class FaceTest {
         "int restore() IllegalStateException",
     };
 
+    private static final Pattern SIGNATURE =
+            Pattern.compile("(\\w+ \\w+)\\((.*?)\\)(?: throws ([\\w, ]+))?");
+
     public static void main(String[] args) {
+        inTheDocument();
         Check.same("the class is public and final", Modifier.PUBLIC | Modifier.FINAL,
                 BoatRota.class.getModifiers());
         methods();
         constructors();
         fields();
+        classesInside();
         Check.end("FaceTest");
     }
 
+    /** FACE is the document's, both in "The public face" and promise by promise. */
+    private static void inTheDocument() {
+        TreeSet<String> face = new TreeSet<>();
+        String constructor = "";
+        for (String line : Document.lines("The public face")) {
+            if (line.equals("    public BoatRota();")) {
+                constructor += line.trim();
+            } else if (line.startsWith("    ")) {
+                face.add(signature(line.replaceFirst("^ {4}public ", "")));
+            }
+        }
+        Check.same("the constructor of the document", "public BoatRota();", constructor);
+        Check.same("the face of the document", new TreeSet<>(List.of(FACE)).toString(),
+                face.toString());
+        for (int k = 0; k < FACE.length; k++) {
+            // Promise 1 is the constructor.
+            Check.same("the signature of promise " + (k + 2), FACE[k],
+                    signatureOfPromise(k + 2));
+        }
+    }
+
+    private static String signatureOfPromise(int number) {
+        for (String line : Document.lines("Promise " + number)) {
+            if (line.startsWith("`")) {
+                return signature(line.substring(1));
+            }
+        }
+        return "none";
+    }
+
+    /** The types alone, as they are written in FACE. */
+    private static String signature(String written) {
+        Matcher matcher = SIGNATURE.matcher(written);
+        if (!matcher.lookingAt()) {
+            return "no signature: " + written;
+        }
+        String thrown = matcher.group(3) == null ? "" : " " + matcher.group(3).replace(",", "");
+        return matcher.group(1) + "(" + matcher.group(2).replaceAll("(\\w+) \\w+", "$1")
+                .replace(", ", ",") + ")" + thrown;
+    }
+
     private static void methods() {
-        TreeSet<String> due = new TreeSet<>(java.util.List.of(FACE));
+        TreeSet<String> due = new TreeSet<>(List.of(FACE));
         TreeSet<String> there = new TreeSet<>();
         TreeSet<String> publicNames = new TreeSet<>();
         for (Method method : BoatRota.class.getDeclaredMethods()) {
@@ -106,6 +155,15 @@ public final class FaceTest {
             if (Modifier.isStatic(modifiers)) {
                 Check.same(field + " is final", 1, Modifier.isFinal(modifiers) ? 1 : 0);
             }
+        }
+    }
+
+    private static void classesInside() {
+        for (Class<?> inside : BoatRota.class.getDeclaredClasses()) {
+            int open = inside.getModifiers() & (Modifier.PUBLIC | Modifier.PROTECTED);
+            Check.same(inside + " is not to be seen", 0, open);
+            Check.same(inside + " is static", 1,
+                    Modifier.isStatic(inside.getModifiers()) ? 1 : 0);
         }
     }
 }

@@ -23,10 +23,12 @@ final class Run {
             Pattern.compile("(?:(\\d+)\\*)?(\\w+)\\(([^()]*)\\)(=\\S*|\\?)?");
     private static final Map<String, Method> FACE = face();
     /** What more there is of a state shows behind these: the past, the snapshot and the text. */
-    private static final List<String> BEHIND = List.of("able", "undo", "restore", "commands");
+    private static final List<String> BEHIND = List.of("", "undo()", "3*undo()", "8*undo()",
+            "restore()", "commands()");
 
     private final BoatRota rota = new BoatRota();
     private final StringBuilder told = new StringBuilder();
+    private String latest = "";
     private int calls = 0;
 
     private static Map<String, Method> face() {
@@ -81,7 +83,8 @@ final class Run {
     /** Behind these calls all is as it was before them, but for the parts that are named. */
     static void leaves(String given, String calls, String... but) {
         for (String behind : BEHIND) {
-            Check.same("[" + given + "] behind " + calls + ", then " + behind,
+            Check.same("[" + given + "] behind " + calls
+                    + (behind.isEmpty() ? "" : ", then " + behind),
                     seen(given, "", behind, but), seen(given, calls, behind, but));
         }
     }
@@ -101,15 +104,16 @@ final class Run {
 
     /** Both runs lead to the same, but for the parts that are named. */
     static void alike(String one, String other, String... but) {
-        Check.same("[" + other + "] and not [" + one + "]", seen(one, "", "able", but),
-                seen(other, "", "able", but));
+        Check.same("[" + other + "] and not [" + one + "]", seen(one, "", "", but),
+                seen(other, "", "", but));
     }
 
     private static String seen(String given, String calls, String behind, String... but) {
         Run run = new Run();
         run.all(given);
         run.each(calls, false);
-        return behind + " " + run.number(behind) + run.view(List.of(but));
+        run.each(behind, false);
+        return (behind.isEmpty() ? "" : behind + " " + run.latest + " ") + run.view(List.of(but));
     }
 
     private void all(String calls) {
@@ -139,6 +143,7 @@ final class Run {
     private void one(Matcher call, boolean isChecked) {
         String name = call.group(2);
         String answer = called(name, call.group(3));
+        latest = answer;
         told.append(told.length() == 0 ? "" : " ").append(name).append('(')
                 .append(call.group(3)).append(')');
         String due = call.group(4) == null ? "" : call.group(4);
